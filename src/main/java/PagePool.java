@@ -18,9 +18,10 @@ public final class PagePool {
     private int hand;
 
     public PagePool() {
-        power = new Power();
-        medium = new Medium(power);
-        changes = new ChangeLog(power);
+        Power one = new Power();
+        power = one;
+        medium = new Medium(one);
+        changes = new ChangeLog(one);
         frames = new Frame[FRAMES];
         for (int f = 0; f < FRAMES; f++) {
             frames[f] = new Frame();
