@@ -1,89 +1,7 @@
 /** One part for each promise: ordinary inputs, the edges that the document names, wrong inputs. */
-public final class PromisesTest {
-    private static final String STATE = "IllegalStateException";
-    private static final String INDEX = "IndexOutOfBoundsException";
-    private static final String ARGUMENT = "IllegalArgumentException";
-    private static final int[] NO_PAGE = {-1, 256, Integer.MIN_VALUE, Integer.MAX_VALUE};
-    private static final int[] NO_FRAME = {-1, 8, Integer.MIN_VALUE, Integer.MAX_VALUE};
-    private static final int[] NO_WORD = {-1, 64, Integer.MIN_VALUE, Integer.MAX_VALUE};
-
-    private static int promise = 0;
-    private static int wrong = 0;
-
-    private interface Call {
-        long run();
-    }
-
-    private static void due(String what, long got, long want) {
-        if (got != want) {
-            wrong++;
-            System.out.println("promise " + promise + ": " + what + " answered " + got + ", due is " + want);
-        }
-    }
-
-    private static void due(String what, boolean got, boolean want) {
-        due(what, got ? 1 : 0, want ? 1 : 0);
-    }
-
-    private static void dueThrow(String what, Call call, String want) {
-        String got;
-        try {
-            got = "answer " + call.run();
-        } catch (RuntimeException e) {
-            got = e.getClass().getSimpleName();
-        }
-        if (!got.equals(want)) {
-            wrong++;
-            System.out.println("promise " + promise + ": " + what + ": " + got + ", due is " + want);
-        }
-    }
-
-    private static void dueFrame(PagePool x, int frame, int page, int pins, int used, int changed, int first) {
-        due("frame(" + frame + ", 0)", x.frame(frame, 0), page);
-        due("frame(" + frame + ", 1)", x.frame(frame, 1), pins);
-        due("frame(" + frame + ", 2)", x.frame(frame, 2), used);
-        due("frame(" + frame + ", 3)", x.frame(frame, 3), changed);
-        due("frame(" + frame + ", 4)", x.frame(frame, 4), first);
-    }
-
-    private static void dueLog(PagePool x, int begin, int forced, int end) {
-        due("log(0)", x.log(0), begin);
-        due("log(1)", x.log(1), forced);
-        due("log(2)", x.log(2), end);
-    }
-
-    private static PagePool off() {
-        PagePool x = new PagePool();
-        x.cut();
-        return x;
-    }
-
-    /** A pool whose frames 0 .. 7 have the pages 0 .. 7, each fixed once. */
-    private static PagePool full() {
-        PagePool x = new PagePool();
-        for (int p = 0; p < 8; p++) {
-            x.fix(p);
-        }
-        return x;
-    }
-
-    /** A page is fixed, its word changed, and it is unfixed. */
-    private static int changeOnce(PagePool x, int page, int i, int v) {
-        int f = x.fix(page);
-        int serial = x.change(f, i, v);
-        x.unfix(f);
-        return serial;
-    }
-
-    private static int wordOf(PagePool x, int page, int i) {
-        int f = x.fix(page);
-        int v = x.word(f, i);
-        x.unfix(f);
-        return v;
-    }
-
+public final class PromisesTest extends Checks {
     private static void newObject() {
-        promise = 1;
+        about("promise 1");
         PagePool x = new PagePool();
         for (int p = 0; p < 256; p++) {
             for (int i = 0; i < 64; i++) {
@@ -107,7 +25,7 @@ public final class PromisesTest {
     }
 
     private static void fix() {
-        promise = 2;
+        about("promise 2");
         PagePool x = new PagePool();
         due("fix(255)", x.fix(255), 0);
         due("fix(0)", x.fix(0), 1);
@@ -190,7 +108,7 @@ public final class PromisesTest {
     }
 
     private static void unfix() {
-        promise = 3;
+        about("promise 3");
         PagePool x = new PagePool();
         x.fix(4);
         x.fix(4);
@@ -210,7 +128,7 @@ public final class PromisesTest {
     }
 
     private static void change() {
-        promise = 4;
+        about("promise 4");
         PagePool x = new PagePool();
         x.fix(4);
         due("change", x.change(0, 1, Integer.MIN_VALUE), 0);
@@ -267,7 +185,7 @@ public final class PromisesTest {
     }
 
     private static void word() {
-        promise = 5;
+        about("promise 5");
         PagePool x = new PagePool();
         x.fix(6);
         x.change(0, 5, 50);
@@ -289,7 +207,7 @@ public final class PromisesTest {
     }
 
     private static void frame() {
-        promise = 6;
+        about("promise 6");
         PagePool x = new PagePool();
         x.fix(200);
         x.fix(201);
@@ -315,7 +233,7 @@ public final class PromisesTest {
     }
 
     private static void flush() {
-        promise = 7;
+        about("promise 7");
         PagePool x = new PagePool();
         x.fix(3);
         x.fix(4);
@@ -374,7 +292,7 @@ public final class PromisesTest {
     }
 
     private static void flushOldest() {
-        promise = 8;
+        about("promise 8");
         PagePool x = new PagePool();
         due("flushOldest of nothing", x.flushOldest(), -1);
         due("isOn", x.isOn(), true);
@@ -401,7 +319,7 @@ public final class PromisesTest {
     }
 
     private static void force() {
-        promise = 9;
+        about("promise 9");
         PagePool x = new PagePool();
         due("force of nothing", x.force(), 0);
         x.fix(0);
@@ -428,7 +346,7 @@ public final class PromisesTest {
     }
 
     private static void trim() {
-        promise = 10;
+        about("promise 10");
         PagePool x = new PagePool();
         due("trim of nothing", x.trim(), 0);
         x.fix(0);
@@ -485,7 +403,7 @@ public final class PromisesTest {
     }
 
     private static void changed() {
-        promise = 11;
+        about("promise 11");
         PagePool x = full();
         due("changed", x.changed(), 0);
         for (int f = 0; f < 8; f++) {
@@ -504,7 +422,7 @@ public final class PromisesTest {
     }
 
     private static void oldest() {
-        promise = 12;
+        about("promise 12");
         PagePool x = full();
         due("oldest(0) of none", x.oldest(0), -1);
         int[] order = {5, 2, 7, 0};
@@ -528,7 +446,7 @@ public final class PromisesTest {
     }
 
     private static void log() {
-        promise = 13;
+        about("promise 13");
         PagePool x = new PagePool();
         changeOnce(x, 0, 1, 1);
         changeOnce(x, 1, 1, 1);
@@ -544,7 +462,7 @@ public final class PromisesTest {
     }
 
     private static void onMedium() {
-        promise = 14;
+        about("promise 14");
         PagePool x = new PagePool();
         changeOnce(x, 255, 63, -5);
         due("before it is written", x.onMedium(255, 63), 0);
@@ -563,7 +481,7 @@ public final class PromisesTest {
     }
 
     private static void torn() {
-        promise = 15;
+        about("promise 15");
         PagePool x = new PagePool();
         changeOnce(x, 9, 31, 1);
         changeOnce(x, 9, 32, 2);
@@ -601,7 +519,7 @@ public final class PromisesTest {
     }
 
     private static void writes() {
-        promise = 16;
+        about("promise 16");
         PagePool x = new PagePool();
         changeOnce(x, 0, 1, 1);
         due("nothing yet", x.writes(), 0);
@@ -622,7 +540,7 @@ public final class PromisesTest {
     }
 
     private static void cutAfter() {
-        promise = 17;
+        about("promise 17");
         PagePool x = new PagePool();
         changeOnce(x, 0, 1, 1);
         x.cutAfter(0);
@@ -670,7 +588,7 @@ public final class PromisesTest {
     }
 
     private static void cut() {
-        promise = 18;
+        about("promise 18");
         PagePool x = full();
         x.unfix(0);
         x.fix(20);
@@ -698,7 +616,7 @@ public final class PromisesTest {
     }
 
     private static void start() {
-        promise = 19;
+        about("promise 19");
         dueThrow("start, on", () -> new PagePool().start(), STATE);
         PagePool x = new PagePool();
         x.cut();
@@ -843,7 +761,7 @@ public final class PromisesTest {
     }
 
     private static void isOn() {
-        promise = 20;
+        about("promise 20");
         PagePool x = new PagePool();
         due("at first", x.isOn(), true);
         x.cut();
@@ -881,9 +799,6 @@ public final class PromisesTest {
         cut();
         start();
         isOn();
-        System.out.println(wrong == 0 ? "all answers are as due" : wrong + " answers are not as due");
-        if (wrong != 0) {
-            System.exit(1);
-        }
+        end();
     }
 }
